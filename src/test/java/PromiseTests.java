@@ -115,6 +115,59 @@ public final class PromiseTests {
         due("1 life 0", x.kept(2, 3), -1);
     }
 
+    /** 75 THINGS of three TYPES of one HELPER at once: nine calls and more, of nine KEYS and more. */
+    private static void atFirst() {
+        AnswerDoor x = new AnswerDoor();
+        x.field(0, 0, 2, 0, 5, false);
+        x.row(0, 0, 0, 5, keys(1, 2, 3, 4, 5));
+        x.thing(0, 0, true);
+        for (int f = 1; f <= 3; f++) {
+            x.field(0, f, 2, f, 5, false);
+            for (int k = 1; k <= 5; k++) {
+                x.row(0, k, f, 5, keys(5 * k, 5 * k + 1, 5 * k + 2, 5 * k + 3, 5 * k + 4));
+                x.thing(0, k, true);
+            }
+        }
+        due("1 ask", ask(x, "{0{1{0}2{0}3{0}}}", 0, 0, 0, 9), 1);
+        due("1 DELAY 1", x.count(0), 4);
+        due("1 calls", x.count(2), 2 + 12);
+        for (int k = 2; k < 14; k++) {
+            due("1 BATCH 8", x.call(k, 3), k < 11 ? 8 : 1);
+            due("1 RATE 8", x.call(k, 2), k < 10 ? 2 : 3);
+            due("1 first waiting", x.call(k, 1), 1 + (k - 2) % 3);
+        }
+        due("1 FULL 100, FILL 10", x.count(10), 100 - 81 + 40);
+        x.pass(4);
+        due("1 FILL 10", x.count(10), 99);
+        x.pass(1);
+        due("1 FULL 100", x.count(10), 100);
+        x.field(1, 3, 2, 1, 5, false);
+        x.field(1, 3, 2, 1, 7, false);
+        due("1 MOST", cost(x, "{3{0}}", 1), 6);
+    }
+
+    private static void fiveWithin() {
+        AnswerDoor x = linked();
+        for (int k = 0; k < 6; k++) {
+            x.thing(0, k, true);
+            x.number(0, k, 0, k);
+            x.key(0, k, 3, k + 1);
+        }
+        due("III five within one another", ask(x, "{03{03{03{03{0}}}}}", 0, 0, 0, 9), 0);
+        answer("III five within one another", x, 1, 0, 1, 1, 1, 2, 1, 3, 1, 4);
+        due("III NOW", x.count(0), 15);
+        due("14 one TICK", ask(x, "{03{0}}", 0, 0, 0, 1), 1);
+        answer("14 one TICK", x, 1, 0, 0, 5);
+        due("14 one TICK", x.count(0), 16);
+        due("3 at 0 alone", x.down(4, 0, 0), 1);
+        x.type(1, 0, 1, 1);
+        x.thing(1, 0, true);
+        due("20 LIFE 1", ask(x, "{0}", 0, 1, 0, 9), 0);
+        due("20 LIFE 1", x.kept(1, 0), 18);
+        x.type(1, 0, 1, 1);
+        due("4 KEY 0 goes", x.kept(1, 0), -1);
+    }
+
     private static void helperPromise() {
         AnswerDoor x = new AnswerDoor();
         int[][] bad = {{-1, 1, 1, 1, 0, 1}, {5, 1, 1, 1, 0, 1}, {0, 0, 1, 1, 0, 1}, {0, 10, 1, 1, 0, 1},
@@ -826,6 +879,8 @@ public final class PromiseTests {
 
     public static void main(String[] args) {
         newObject();
+        atFirst();
+        fiveWithin();
         helperPromise();
         downPromise();
         typePromise();
