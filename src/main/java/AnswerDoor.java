@@ -279,7 +279,7 @@ public final class AnswerDoor {
             return NONE;
         }
         int id = t * KEYS + key;
-        return store.isKept(id, clock.now) ? store.keptTo[id] : NONE;
+        return store.keptTo[id] > clock.now ? store.keptTo[id] : NONE;
     }
 
     public int count(int what) {
@@ -421,7 +421,7 @@ public final class AnswerDoor {
 
     /**
      * TYPES, their FIELDS, and THINGS. A THING's id is TYPE * KEYS + KEY.
-     * What is KEPT is only its last TICK: all that would change it makes it go.
+     * Of what is KEPT the TICK behind its LIFE is enough: all that changes a THING makes it go.
      */
     private static final class Store {
         final int[] helperOf = new int[TYPES];
@@ -442,10 +442,6 @@ public final class AnswerDoor {
             Arrays.fill(price, 1);
             Arrays.fill(most, ROW);
             Arrays.fill(refs, NONE);
-        }
-
-        boolean isKept(int id, int now) {
-            return keptTo[id] > now;
         }
 
         void keep(int id, int now) {
@@ -797,7 +793,7 @@ public final class AnswerDoor {
             int type = id / KEYS;
             if ((rights >> type & 1) == 0) {
                 fate[id] = REASON_NO_RIGHT;
-            } else if (store.isKept(id, clock.now)) {
+            } else if (store.keptTo[id] > clock.now) {
                 fate[id] = KNOWN;
             } else if (asked < THINGS) {
                 fate[id] = WAITS;

@@ -156,16 +156,61 @@ public final class PromiseTests {
         due("III five within one another", ask(x, "{03{03{03{03{0}}}}}", 0, 0, 0, 9), 0);
         answer("III five within one another", x, 1, 0, 1, 1, 1, 2, 1, 3, 1, 4);
         due("III NOW", x.count(0), 15);
+        x.type(0, 0, 1, 999);
+        for (int times = 0; times < 2; times++) {
+            due("III all kept then", ask(x, "{03{03{03{03{0}}}}}", 0, 0, 0, 9), 0);
+            answer("III all kept then", x, 1, 0, 1, 1, 1, 2, 1, 3, 1, 4);
+            due("III NOW", x.count(0), 20);
+        }
+        x.type(0, 0, 1, 0);
         due("14 one TICK", ask(x, "{03{0}}", 0, 0, 0, 1), 1);
         answer("14 one TICK", x, 1, 0, 0, 5);
-        due("14 one TICK", x.count(0), 16);
+        due("14 one TICK", x.count(0), 21);
         due("3 at 0 alone", x.down(4, 0, 0), 1);
         x.type(1, 0, 1, 1);
         x.thing(1, 0, true);
         due("20 LIFE 1", ask(x, "{0}", 0, 1, 0, 9), 0);
-        due("20 LIFE 1", x.kept(1, 0), 18);
+        due("20 LIFE 1", x.kept(1, 0), 23);
         x.type(1, 0, 1, 1);
         due("4 KEY 0 goes", x.kept(1, 0), -1);
+    }
+
+    /** Asks that need 127 THINGS each, one KEY a call and one call a TICK. */
+    private static void manyCalls() {
+        AnswerDoor x = linked();
+        x.field(0, 0, 2, 0, 5, false);
+        x.helper(0, 1, 1, 1, 0, 1);
+        for (int f = 1; f <= 3; f++) {
+            x.field(0, f, 2, f, 5, false);
+        }
+        for (int k = 0; k < 32; k++) {
+            x.thing(0, k, true);
+            int next = 5 * k + 1;
+            int[] row = {next & 31, (next + 1) & 31, (next + 2) & 31, (next + 3) & 31, (next + 4) & 31};
+            for (int f = 0; f < 4; f++) {
+                x.row(0, k, f, 5, keys(row));
+            }
+        }
+        for (int times = 0; times < 4; times++) {
+            int now = x.count(0);
+            due("III many", ask(x, "{0{0{1{0}2{0}3{0}}}}", 0, 0, 0, 200), 1);
+            due("III each once", x.count(4), 31 + 3 * 32);
+            due("III calls", x.count(2), 31 + 3 * 32);
+            due("III a TICK each", x.count(0), now + 31 + 3 * 32);
+            due("III nulls", x.count(5), 3 * 32);
+            due("III numbers", x.count(3), 2 + 5 * 2 + 25 * 4 + 375 * 2);
+            boolean[] seen = new boolean[6 * 32];
+            for (int k = 0; k < x.count(2); k++) {
+                seen[x.call(k, 1) * 32 + x.call(k, 10)] = true;
+                due("III one KEY", x.call(k, 11), -1);
+            }
+            int keys = 0;
+            for (boolean one : seen) {
+                keys += one ? 1 : 0;
+            }
+            due("III other KEYS", keys, 31 + 3 * 32);
+            x.pass(20);
+        }
     }
 
     private static void helperPromise() {
@@ -880,6 +925,7 @@ public final class PromiseTests {
     public static void main(String[] args) {
         newObject();
         atFirst();
+        manyCalls();
         fiveWithin();
         helperPromise();
         downPromise();
