@@ -1,88 +1,7 @@
 import java.util.Arrays;
 
 /** The promises of the document one by one: ordinary inputs, named edges, wrong inputs. */
-public final class PromiseTests {
-    private static int wrong = 0;
-    private static int checks = 0;
-
-    private static void due(String what, long got, long want) {
-        checks++;
-        if (got != want) {
-            wrong++;
-            System.out.println(what + " answered " + got + ", due is " + want);
-        }
-    }
-
-    private static void yes(String what, boolean got) {
-        due(what, got ? 1 : 0, 1);
-    }
-
-    private static void no(String what, boolean got) {
-        due(what, got ? 1 : 0, 0);
-    }
-
-    private static void tell(AnswerDoor x, String text) {
-        int have = x.count(1);
-        for (int i = 0; i < text.length(); i += 20) {
-            int[] w = new int[5];
-            for (int j = 0; j < 20; j++) {
-                int b = i + j < text.length() ? text.charAt(i + j) : 0;
-                w[j / 4] |= b << (24 - 8 * (j % 4));
-            }
-            x.feed(w[0], w[1], w[2], w[3], w[4]);
-        }
-        due("end", x.end(have + text.length()), have + text.length());
-    }
-
-    private static int ask(AnswerDoor x, String text, int asker, int type, int key, int ticks) {
-        tell(x, text);
-        return x.ask(asker, type, key, ticks);
-    }
-
-    private static int cost(AnswerDoor x, String text, int type) {
-        x.end(0);
-        tell(x, text);
-        int got = x.cost(type);
-        due("the TAPE stays", x.count(1), text.length());
-        x.end(0);
-        return got;
-    }
-
-    private static void answer(String what, AnswerDoor x, int... want) {
-        int[] got = new int[Math.max(0, x.count(3))];
-        for (int i = 0; i < got.length; i++) {
-            got[i] = x.answer(i);
-        }
-        checks++;
-        if (!Arrays.equals(got, want)) {
-            wrong++;
-            System.out.println(what + ": answer " + Arrays.toString(got) + ", due is " + Arrays.toString(want));
-        }
-        due(what + ": behind the answer", x.answer(want.length), -1);
-        due(what + ": ahead of the answer", x.answer(-1), -1);
-    }
-
-    /** A call as HELPER, TYPE, TICK, fate, then its KEYS. */
-    private static void call(String what, AnswerDoor x, int k, int... want) {
-        due(what + ": HELPER", x.call(k, 0), want[0]);
-        due(what + ": TYPE", x.call(k, 1), want[1]);
-        due(what + ": TICK", x.call(k, 2), want[2]);
-        due(what + ": fate", x.call(k, 4), want[3]);
-        due(what + ": KEYS", x.call(k, 3), want.length - 4);
-        for (int i = 4; i < want.length; i++) {
-            due(what + ": KEY " + (i - 4), x.call(k, 6 + i), want[i]);
-        }
-        due(what + ": behind its KEYS", x.call(k, 6 + want.length), -1);
-    }
-
-    private static int keys(int... each) {
-        int all = 0;
-        for (int i = 0; i < each.length; i++) {
-            all |= each[i] << (5 * i);
-        }
-        return all;
-    }
-
+public final class PromiseTests extends Checks {
     private static void newObject() {
         AnswerDoor x = new AnswerDoor();
         due("1 NONE", AnswerDoor.NONE, -1);
@@ -923,34 +842,31 @@ public final class PromiseTests {
     }
 
     public static void main(String[] args) {
-        newObject();
-        atFirst();
-        manyCalls();
-        fiveWithin();
-        helperPromise();
-        downPromise();
-        typePromise();
-        fieldPromise();
-        thingPromises();
-        keyPromises();
-        askerPromise();
-        passPromise();
-        tapePromises();
-        faults();
-        prices();
-        wrongAsks();
-        order();
-        musts();
-        late();
-        lives();
-        breakers();
-        breakerWithin();
-        forgottenCountsNothing();
-        counts();
-        biggestAnswer();
-        System.out.println(checks + " answers looked at, " + wrong + " wrong");
-        if (wrong != 0) {
-            System.exit(1);
-        }
+        test("Promise 1", PromiseTests::newObject);
+        test("Promise 1: all as at first", PromiseTests::atFirst);
+        test("III: many calls", PromiseTests::manyCalls);
+        test("III: five within one another", PromiseTests::fiveWithin);
+        test("Promise 2", PromiseTests::helperPromise);
+        test("Promise 3", PromiseTests::downPromise);
+        test("Promise 4", PromiseTests::typePromise);
+        test("Promise 5", PromiseTests::fieldPromise);
+        test("Promises 6 and 7", PromiseTests::thingPromises);
+        test("Promises 8 and 9", PromiseTests::keyPromises);
+        test("Promise 10", PromiseTests::askerPromise);
+        test("Promise 11", PromiseTests::passPromise);
+        test("Promises 12 and 13", PromiseTests::tapePromises);
+        test("II: FAULTS", PromiseTests::faults);
+        test("II: PRICED; promises 15 and 16", PromiseTests::prices);
+        test("Promise 14", PromiseTests::wrongAsks);
+        test("III: the order of calls; promise 18", PromiseTests::order);
+        test("III: THE ANSWER; promise 17", PromiseTests::musts);
+        test("III: the end of its TICKS", PromiseTests::late);
+        test("III: KEPT; promise 20", PromiseTests::lives);
+        test("III: a BREAKER; promise 19", PromiseTests::breakers);
+        test("III: a BREAKER within an ASK", PromiseTests::breakerWithin);
+        test("III: what is forgotten counts nothing", PromiseTests::forgottenCountsNothing);
+        test("Promise 21", PromiseTests::counts);
+        test("III: the longest answer", PromiseTests::biggestAnswer);
+        report();
     }
 }
