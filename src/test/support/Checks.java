@@ -97,6 +97,12 @@ abstract class Checks {
         due(what + ": behind its KEYS", x.call(k, 6 + want.length), -1);
     }
 
+    static void breakerIs(String what, AnswerDoor x, int h, int state, int counted, int to) {
+        due(what + ": its state", x.breaker(h, 0), state);
+        due(what + ": counted", x.breaker(h, 1), counted);
+        due(what + ": open to", x.breaker(h, 2), to);
+    }
+
     /** A row's KEYS as row() takes them. */
     static int keys(int... each) {
         int all = 0;
