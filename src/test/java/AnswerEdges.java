@@ -418,6 +418,17 @@ public final class AnswerEdges extends Checks {
         breakerIs("open", x, 1, 1, 0, 5);
     }
 
+    /** In TICK 3, the first behind its being open, nothing is asked for; in TICK 4 it is. */
+    private static void triedLater() {
+        AnswerDoor x = chain(1);
+        x.row(2, 1, 2, 0, 0);
+        due("ask", ask(x, CHAIN, 0, 0, 0, 50), 1);
+        answer("open in TICK 2, tried in TICK 4", x, 1, 1, 0, 3, 1, 1, 0, 4, 1, 0, 1, 1, 0, 2);
+        call("tried as it is asked for", x, 5, 1, 1, 4, 0, 4);
+        due("NOW", x.count(0), 5);
+        breakerIs("closed", x, 1, 0, 0, -1);
+    }
+
     private static void openAtOnce() {
         AnswerDoor x = houses();
         open(x, 1, 1, 5);
@@ -524,6 +535,25 @@ public final class AnswerEdges extends Checks {
         due("no try", x.count(2), 6);
         due("NOW", x.count(0), 6);
         breakerIs("to be tried", x, 1, 2, 0, 6);
+        due("another ASK", ask(x, "{1{0}}", 0, 0, 0, 7), 1);
+        call("tried then", x, 1, 1, 1, 7, 0, 6);
+        call("what waited in the one ahead waits no more", x, 2, 1, 1, 11, 2, 7);
+        due("calls", x.count(2), 4);
+    }
+
+    /** Call 0 was a try once; call 0 of a later ASK is none. */
+    private static void forgottenIsNoTry() {
+        AnswerDoor x = new AnswerDoor();
+        x.helper(0, 3, 8, 8, 1, 1);
+        x.down(0, 0, 0);
+        due("it fails", ask(x, "{0}", 0, 0, 0, 9), 1);
+        breakerIs("open", x, 0, 1, 0, 4);
+        x.pass(1);
+        due("tried", ask(x, "{0}", 0, 0, 0, 9), 1);
+        breakerIs("closed", x, 0, 0, 0, -1);
+        due("forgotten", ask(x, "{0}", 0, 0, 0, 2), 1);
+        call("forgotten", x, 0, 0, 0, 7, 2, 0);
+        breakerIs("it counts nothing", x, 0, 0, 0, -1);
     }
 
     private static void tryIsOneBatch() {
@@ -881,6 +911,7 @@ public final class AnswerEdges extends Checks {
         test("while it is open, what is ASKED FOR of it (all that waits as calls would be made) is null, reason 4",
             AnswerEdges::openAtOnce);
         test("what is ASKED FOR of it", AnswerEdges::keptWhileOpen);
+        test("behind that one call alone is made", AnswerEdges::triedLater);
         test("FAILED ones of calls made ahead of its opening that come back while it is open, or tried, count nothing.",
             AnswerEdges::countNothing);
         test("if it FAILED the BREAKER is open again likewise, else closed.", AnswerEdges::triedInVain);
@@ -901,6 +932,7 @@ public final class AnswerEdges extends Checks {
         test("all that isn't KNOWN or null is null, reason 5", AnswerEdges::lateWhileOpen);
         test("calls on their way are forgotten: they come back never, and count nothing", AnswerEdges::forgotten);
         test("a try is as if it had FAILED", AnswerEdges::triedTooLate);
+        test("and count nothing", AnswerEdges::forgottenIsNoTry);
         test("A THING by a NODE: 0 and its reason, if it is null", AnswerEdges::reasonOfItsOwn);
         test("else, if a FIELD of the NODE that is MUST is null (a REF that is NONE: null, reason 2; a LIST with one that "
             + "is null), 0 and 6", AnswerEdges::mustHave);

@@ -35,8 +35,11 @@ public final class PromiseTests extends Checks {
     }
 
     /** 75 THINGS of three TYPES of one HELPER at once: nine calls and more, of nine KEYS and more. */
-    private static void atFirst() {
+    private static void atFirst(int h) {
         AnswerDoor x = new AnswerDoor();
+        for (int t = 0; t < 4; t++) {
+            x.type(t, h, 1, 0);
+        }
         x.field(0, 0, 2, 0, 5, false);
         x.row(0, 0, 0, 5, keys(1, 2, 3, 4, 5));
         x.thing(0, 0, true);
@@ -63,6 +66,12 @@ public final class PromiseTests extends Checks {
         x.field(1, 3, 2, 1, 5, false);
         x.field(1, 3, 2, 1, 7, false);
         due("1 MOST", cost(x, "{3{0}}", 1), 6);
+    }
+
+    private static void atFirst() {
+        for (int h = 0; h < 5; h++) {
+            atFirst(h);
+        }
     }
 
     private static void fiveWithin() {

@@ -36,6 +36,41 @@ public final class TellingEdges extends Checks {
         return x;
     }
 
+    /** All that can be told of the first of all is told otherwise; another door knows nothing of it. */
+    private static void newObject() {
+        AnswerDoor told = new AnswerDoor();
+        AnswerDoor early = new AnswerDoor();
+        told.helper(0, 9, 1, 1, 1, 99);
+        told.type(0, 0, 9, 999);
+        told.field(0, 0, 1, 0, 1, true);
+        told.thing(0, 0, true);
+        told.number(0, 0, 1, 5);
+        told.key(0, 0, 0, 0);
+        told.asker(0, 0, 50, 0);
+        told.pass(7);
+        told.down(0, 0, 100000);
+        due("without the RIGHT", ask(told, "{0{1}1}", 0, 0, 0, 9), 1);
+        due("it opens", ask(told, "{1}", 1, 0, 0, 9), 1);
+        due("DEAR", told.asker(2, 63, 8, 0) ? ask(told, "{1}", 2, 0, 0, 9) : 9, 2);
+        told.feed(0, 0, 0, 0, 0);
+        for (AnswerDoor x : new AnswerDoor[] {early, new AnswerDoor()}) {
+            for (int what = 0; what < 14; what++) {
+                due("count(" + what + ")", x.count(what), what < 7 ? 0 : what < 10 ? -1 : 100);
+            }
+            breakerIs("at first", x, 0, 0, 0, -1);
+            due("dear", x.dear(), -1);
+            due("answer", x.answer(0), -1);
+            due("call", x.call(0, 0), -1);
+            due("kept", x.kept(0, 0), -1);
+            due("no THINGS", ask(x, "{0123}", 0, 0, 0, 9), 1);
+            answer("no THINGS", x, 0, 2);
+            due("NOW", x.count(0), 1);
+            x.thing(0, 0, true);
+            due("numbers", ask(x, "{0123}", 0, 0, 0, 9), 0);
+            answer("numbers", x, 1, 0, 0, 0, 0);
+        }
+    }
+
     private static void ticks() {
         AnswerDoor x = new AnswerDoor();
         due("NOW at first", x.count(0), 0);
@@ -75,8 +110,11 @@ public final class TellingEdges extends Checks {
 
     private static void delay() {
         AnswerDoor x = new AnswerDoor();
-        due("at first", ask(x, "{0}", 0, 0, 0, 9), 1);
-        due("at first", x.count(0), 1);
+        for (int h = 0; h < 5; h++) {
+            x.type(0, h, 1, 0);
+            due("at first", ask(x, "{0}", 0, 0, 0, 9), 1);
+            due("at first", x.count(0), h + 1);
+        }
         for (int delay = 1; delay <= 9; delay++) {
             x = new AnswerDoor();
             x.thing(0, 0, true);
@@ -109,7 +147,11 @@ public final class TellingEdges extends Checks {
     }
 
     private static void batch() {
-        sizesAre(nine(), 8);
+        for (int h = 0; h < 5; h++) {
+            AnswerDoor x = nine();
+            x.type(1, h, 1, 0);
+            sizesAre(x, 8);
+        }
         for (int batch = 1; batch <= 8; batch++) {
             AnswerDoor x = nine();
             yes("taken", x.helper(0, 1, batch, 8, 0, 1));
@@ -788,6 +830,7 @@ public final class TellingEdges extends Checks {
     }
 
     private static void promises() {
+        test("All as at first; no THINGS.", TellingEdges::newObject);
         test("A HELPER's DELAY, BATCH, RATE, FAILS, WAIT from now on (its BREAKER is closed, its count 0): true",
             TellingEdges::helperCloses);
         test("NONE: 20, or something is not as told.", TellingEdges::downAtLast);
