@@ -46,12 +46,8 @@ public final class AnswerEdges extends Checks {
         x.field(2, 0, 2, 5, 5, false);
         for (int key = 0; key <= 30; key++) {
             x.thing(0, key, true);
-            int[] row = new int[5];
-            for (int i = 0; i < 5; i++) {
-                row[i] = 5 * key + 1 + i & 31;
-            }
             for (int f = 0; f < 4; f++) {
-                x.row(0, key, f, 5, keys(row));
+                x.row(0, key, f, 5, fiveFrom(5 * key + 1));
             }
         }
         for (int key = 6; key <= 30; key++) {
@@ -59,9 +55,8 @@ public final class AnswerEdges extends Checks {
             x.key(1, key, 0, key - 6);
         }
         for (int key = 1; key <= 5; key++) {
-            int first = 5 * (key - 1);
             x.thing(2, key, true);
-            x.row(2, key, 0, 5, keys(first, first + 1, first + 2, first + 3, first + 4));
+            x.row(2, key, 0, 5, fiveFrom(5 * (key - 1)));
         }
         x.pass(10);
         return x;
@@ -219,6 +214,67 @@ public final class AnswerEdges extends Checks {
         due("nulls, each once", x.count(5), 3);
         answer("but told each time", x, 1, 5, 0, 2, 0, 2, 0, 2, 0, 2, 0, 2, 5, 0, 2, 0, 2, 0, 2, 0, 2, 0, 2,
             1, 2, 0, 2, 0, 2);
+    }
+
+    private static final String ALL_THINGS = "{1{1{0}2{0}3{0}}2{1{0}2{0}3{0}}3{1{0}2{0}3{1{0}2{0}3{0}}}}";
+
+    /** The TYPES that the FIELDS 1 to 3 of the TYPES 0 to 4 lead to: of TYPE 4 REFS, of the others LISTS. */
+    private static final int[][] LEADS_TO = {{1, 2, 3}, {0, 0, 1}, {1, 2, 2}, {3, 3, 4}, {4, 5, 5}};
+
+    /** KEY 0 of TYPE 0 leads to five of the TYPES 1, 2, 3 each, and these to all THINGS but those behind TYPE 4. */
+    private static AnswerDoor allThings(int batch) {
+        AnswerDoor x = new AnswerDoor();
+        x.helper(0, 1, batch, 8, 0, 1);
+        x.asker(0, 63, 500, 50);
+        boolean[] met = new boolean[6];
+        for (int t = 0; t < 5; t++) {
+            for (int f = 1; f <= 3; f++) {
+                int of = LEADS_TO[t][f - 1];
+                x.field(t, f, t == 4 ? 1 : 2, of, 5, false);
+                for (int key = 0; key < (t == 0 ? 1 : t == 4 ? 25 : 5); key++) {
+                    if (f == 1) {
+                        x.thing(t, key, true);
+                    }
+                    // The first 25 KEYS by the first FIELD that leads there, the others by the second.
+                    if (t == 4) {
+                        x.key(t, key, f, f == 2 ? key : 25 + key % 7);
+                    } else {
+                        x.row(t, key, f, 5, fiveFrom(met[of] ? 25 + 5 * key : 5 * key));
+                    }
+                }
+                met[of] = t > 0;
+            }
+        }
+        x.pass(8);
+        return x;
+    }
+
+    private static void allAtOnce() {
+        AnswerDoor x = allThings(1);
+        due("ask", ask(x, ALL_THINGS, 0, 0, 0, 200), 1);
+        due("all KEYS of all TYPES", x.count(4), 6 * 32);
+        due("a call each", x.count(2), 6 * 32);
+        due("the last one's KEYS", x.call(191, 3), 1);
+        due("the last one came back", x.call(191, 4), 0);
+        due("no more", x.call(192, 0), -1);
+        due("not there", x.count(5), 6 * 32 - 1 - 15 - 25);
+        x = allThings(8);
+        due("ask", ask(x, ALL_THINGS, 0, 0, 0, 200), 1);
+        due("all KEYS of all TYPES", x.count(4), 6 * 32);
+        boolean[] seen = new boolean[6 * 32];
+        int calls = x.count(2);
+        for (int k = 0; k < calls; k++) {
+            int type = x.call(k, 1);
+            int keys = x.call(k, 3);
+            for (int i = 0; i < keys; i++) {
+                int id = type * 32 + x.call(k, 10 + i);
+                no("asked for before", seen[id]);
+                seen[id] = true;
+            }
+        }
+        for (int id = 0; id < seen.length; id++) {
+            yes("asked for: " + id, seen[id]);
+        }
     }
 
     private static void knownAtOnce() {
@@ -891,6 +947,7 @@ public final class AnswerEdges extends Checks {
         test("What the call tells is as it is in that ASK (nothing changes within it).", AnswerEdges::knownToTheEnd);
         test("else it is ASKED FOR, once in all, in the order in which it came to be NEEDED.",
             AnswerEdges::onceInAll);
+        test("What is NEEDED (a TYPE and KEY)", AnswerEdges::allAtOnce);
         test("What is KNOWN at once is gone on with at once, ahead of what is NEEDED behind it",
             AnswerEdges::knownAtOnce);
         test("what comes in a call: KEY by KEY in the call's order, each with all that follows of it at once.",

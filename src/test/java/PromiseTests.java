@@ -46,7 +46,7 @@ public final class PromiseTests extends Checks {
         for (int f = 1; f <= 3; f++) {
             x.field(0, f, 2, f, 5, false);
             for (int k = 1; k <= 5; k++) {
-                x.row(0, k, f, 5, keys(5 * k, 5 * k + 1, 5 * k + 2, 5 * k + 3, 5 * k + 4));
+                x.row(0, k, f, 5, fiveFrom(5 * k));
                 x.thing(0, k, true);
             }
         }
@@ -113,10 +113,8 @@ public final class PromiseTests extends Checks {
         }
         for (int k = 0; k < 32; k++) {
             x.thing(0, k, true);
-            int next = 5 * k + 1;
-            int[] row = {next & 31, (next + 1) & 31, (next + 2) & 31, (next + 3) & 31, (next + 4) & 31};
             for (int f = 0; f < 4; f++) {
-                x.row(0, k, f, 5, keys(row));
+                x.row(0, k, f, 5, fiveFrom(5 * k + 1));
             }
         }
         for (int times = 0; times < 4; times++) {

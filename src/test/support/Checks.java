@@ -24,8 +24,7 @@ abstract class Checks {
     static void due(String what, long got, long want) {
         checks++;
         if (got != want) {
-            wrong++;
-            System.out.println("[" + about + "] " + what + " answered " + got + ", due is " + want);
+            isWrong(what, got, want);
         }
     }
 
@@ -40,9 +39,15 @@ abstract class Checks {
     static void same(String what, Object got, Object want) {
         checks++;
         if (!got.equals(want)) {
-            wrong++;
-            System.out.println("[" + about + "] " + what + " answered " + got + ", due is " + want);
+            isWrong(what, got, want);
         }
+    }
+
+    /** Texts of ASKS may hold any byte; what is printed holds only those that show. */
+    private static void isWrong(String what, Object got, Object want) {
+        wrong++;
+        String shown = what.replaceAll("[^ -~]", "?");
+        System.out.println("[" + about + "] " + shown + " answered " + got + ", due is " + want);
     }
 
     /** The text comes behind the TAPE. */
@@ -110,6 +115,15 @@ abstract class Checks {
             all |= each[i] << (5 * i);
         }
         return all;
+    }
+
+    /** A row of five KEYS, one behind the other; behind 31 comes 0. */
+    static int fiveFrom(int first) {
+        int[] row = new int[5];
+        for (int i = 0; i < 5; i++) {
+            row[i] = first + i & 31;
+        }
+        return keys(row);
     }
 
     /** Says how it went, and ends with exit code 1 if something was wrong. */
