@@ -8,7 +8,11 @@ import java.util.TreeSet;
 
 /** Random runs (of fixed seeds) against a slow second telling of the document, call by call. */
 public final class ModelRuns {
-    private static final int RUNS = 3000;
+    private static final int RUNS = 12000;
+    /** An object's later calls are free. */
+    private static final int CALLS = 512;
+    /** Behind so many the rest of a run's calls looks only. */
+    private static final int CALLS_AHEAD_OF_LOOKS = 440;
 
     /** A text's NODE. */
     static final class Node {
@@ -545,6 +549,10 @@ public final class ModelRuns {
             return lacking ? List.of(0, 6) : out;
         }
 
+        int answer(int i) {
+            return in(i, 0, answer.size() - 1) ? answer.get(i) : -1;
+        }
+
         int call(int k, int what) {
             if (!in(k, 0, calls.size() - 1)) {
                 return -1;
@@ -812,38 +820,59 @@ public final class ModelRuns {
         due("ask(" + a + "," + type + "," + key + "," + ticks + ") of " + text, door.ask(a, type, key, ticks), want);
         seen.merge(want < -2 ? "FAULT " + ((-3 - want) % 4) : "ask " + want, 1, Integer::sum);
         if (want == 0 || want == 1) {
-            lookAtAll();
+            countSeen();
+            lookAround(10);
         }
     }
 
-    /** These looks are not counted among the 512 calls: they change nothing. */
-    private void lookAtAll() {
-        for (int i = -1; i <= model.answer.size(); i++) {
-            int want = Model.in(i, 0, model.answer.size() - 1) ? model.answer.get(i) : -1;
-            look("answer(" + i + ")", door.answer(i), want);
+    /** Looks are calls, too: some behind each answer, and at the end as many as are left. */
+    private void lookAround(int times) {
+        for (int i = 0; i < times && calls < CALLS; i++) {
+            lookOnce();
         }
-        for (int k = -1; k <= model.calls.size(); k++) {
-            for (int what = -1; what < 19; what++) {
-                look("call(" + k + "," + what + ")", door.call(k, what), model.call(k, what));
-            }
+    }
+
+    private void lookOnce() {
+        switch (random.nextInt(12)) {
+            case 0:
+                due("dear()", door.dear(), model.dear);
+                break;
+            case 1:
+            case 2:
+                int t = any(0, 5);
+                int key = anyKey();
+                due("kept(" + t + "," + key + ")", door.kept(t, key), model.kept(t, key));
+                break;
+            case 3:
+            case 4:
+                int h = any(0, 4);
+                int state = any(0, 2);
+                due("breaker(" + h + "," + state + ")", door.breaker(h, state), model.breaker(h, state));
+                break;
+            case 5:
+            case 6:
+                int what = any(0, 13);
+                due("count(" + what + ")", door.count(what), model.count(what));
+                break;
+            case 7:
+            case 8:
+            case 9:
+                int k = any(0, model.calls.size());
+                int of = random.nextBoolean() ? any(0, 4) : any(0, 18);
+                due("call(" + k + "," + of + ")", door.call(k, of), model.call(k, of));
+                break;
+            default:
+                int place = any(0, model.answer.size());
+                due("answer(" + place + ")", door.answer(place), model.answer(place));
+                break;
         }
-        for (int what = -1; what < 15; what++) {
-            look("count(" + what + ")", door.count(what), model.count(what));
+    }
+
+    /** What the runs come by, so that it can be seen that they come by everything. */
+    private void countSeen() {
+        for (int h = 0; h < 5; h++) {
+            seen.merge("breaker " + model.breaker(h, 0), 1, Integer::sum);
         }
-        for (int h = -1; h < 6; h++) {
-            for (int what = -1; what < 4; what++) {
-                look("breaker(" + h + "," + what + ")", door.breaker(h, what), model.breaker(h, what));
-            }
-            if (Model.in(h, 0, 4)) {
-                seen.merge("breaker " + model.breaker(h, 0), 1, Integer::sum);
-            }
-        }
-        for (int t = -1; t < 7; t++) {
-            for (int k = -1; k < 33; k++) {
-                look("kept(" + t + "," + k + ")", door.kept(t, k), model.kept(t, k));
-            }
-        }
-        look("dear()", door.dear(), model.dear);
         for (Call c : model.calls) {
             seen.merge("call " + c.fate, 1, Integer::sum);
         }
@@ -853,13 +882,6 @@ public final class ModelRuns {
                     seen.merge("reason " + x.reason, 1, Integer::sum);
                 }
             }
-        }
-    }
-
-    private void look(String call, int got, int want) {
-        if (got != want && !wrong) {
-            wrong = true;
-            System.out.println("run " + run + ":\n" + story + call + " = " + got + ", due is " + want);
         }
     }
 
@@ -913,10 +935,10 @@ public final class ModelRuns {
     private boolean play() {
         try {
             setUp();
-            while (calls < 500 && !wrong) {
+            while (calls < CALLS_AHEAD_OF_LOOKS && !wrong) {
                 step();
             }
-            lookAtAll();
+            lookAround(CALLS);
         } catch (RuntimeException e) {
             wrong = true;
             System.out.println("run " + run + " threw:\n" + story);
