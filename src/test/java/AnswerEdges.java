@@ -277,6 +277,29 @@ public final class AnswerEdges extends Checks {
         }
     }
 
+    /** The same with calls that are on their way as the time is over, and with a BREAKER that opens late. */
+    private static void allAtOnceNotAllKnown() {
+        AnswerDoor x = allThings(1);
+        x.helper(0, 9, 1, 8, 0, 1);
+        due("ask", ask(x, ALL_THINGS, 0, 0, 0, 200), 1);
+        int ticks = x.count(0) - 8;
+        x = allThings(1);
+        x.helper(0, 9, 1, 8, 0, 1);
+        due("ask", ask(x, ALL_THINGS, 0, 0, 0, ticks - 1), 1);
+        due("all KEYS of all TYPES", x.count(4), 6 * 32);
+        due("a call each", x.count(2), 6 * 32);
+        due("the last one is forgotten", x.call(191, 4), 2);
+        x = allThings(1);
+        x.helper(0, 1, 1, 8, 1, 9);
+        x.down(0, 30, 30);
+        due("ask", ask(x, ALL_THINGS, 0, 0, 0, 200), 1);
+        due("all KEYS of all TYPES", x.count(4), 6 * 32);
+        due("calls ahead of its opening", x.count(2), 177);
+        due("the last one FAILED", x.call(176, 4), 1);
+        breakerIs("opened by it", x, 0, 1, 0, 40);
+        due("NOW", x.count(0), 31);
+    }
+
     private static void knownAtOnce() {
         AnswerDoor x = houses();
         x.type(1, 1, 1, 99);
@@ -948,6 +971,8 @@ public final class AnswerEdges extends Checks {
         test("else it is ASKED FOR, once in all, in the order in which it came to be NEEDED.",
             AnswerEdges::onceInAll);
         test("What is NEEDED (a TYPE and KEY)", AnswerEdges::allAtOnce);
+        test("all that isn't KNOWN or null is null, reason 5; all that waits is null, reason 4: of all THINGS",
+            AnswerEdges::allAtOnceNotAllKnown);
         test("What is KNOWN at once is gone on with at once, ahead of what is NEEDED behind it",
             AnswerEdges::knownAtOnce);
         test("what comes in a call: KEY by KEY in the call's order, each with all that follows of it at once.",
